@@ -6,6 +6,7 @@ public final class FleetStores {
     private static final int LAST_WEEK = 200;
     private static final int PLACES = 8;
     private static final int KINDS = 4;
+    private static final int STORES = PLACES * KINDS;
     private static final int MAKERS = 10;
     private static final int MOST_MEN = 1000;
     private static final int MOST_RATIONS = 500;
@@ -39,6 +40,7 @@ public final class FleetStores {
     private final Place[] places;
     private final Kind[] kinds;
     private final Store[] stores;
+    private final int[][] stocksAsBegan;
     private final int[][] ways;
     private final Lots lots;
     private final Tape tape;
@@ -55,7 +57,10 @@ public final class FleetStores {
     public FleetStores() {
         places = new Place[PLACES];
         kinds = new Kind[KINDS];
-        stores = new Store[PLACES * KINDS];
+        stores = new Store[STORES];
+        // The row of a WEEK is made as it begins: most objects see few of the 200.
+        stocksAsBegan = new int[LAST_WEEK + 1][];
+        stocksAsBegan[0] = new int[STORES];
         ways = new int[PLACES][PLACES];
         for (int k = 0; k < KINDS; k++) {
             kinds[k] = new Kind(k);
@@ -63,7 +68,8 @@ public final class FleetStores {
         for (int p = 0; p < PLACES; p++) {
             places[p] = new Place(p);
             for (int k = 0; k < KINDS; k++) {
-                stores[p * KINDS + k] = new Store(places[p], kinds[k]);
+                int number = p * KINDS + k;
+                stores[number] = new Store(number, places[p], kinds[k]);
             }
             for (int other = 0; other < PLACES; other++) {
                 ways[p][other] = FIRST_WAY;
@@ -73,9 +79,6 @@ public final class FleetStores {
         tape = new Tape();
         reader = new Reader(tape);
         contracts = new Contract[MAKERS];
-        for (int m = 0; m < MAKERS; m++) {
-            contracts[m] = new Contract();
-        }
         spareContract = new Contract();
         line = new Line();
     }
@@ -240,10 +243,10 @@ public final class FleetStores {
         if (!within(maker, 0, MAKERS - 1) || reader.read(spareContract) != NONE) {
             return false;
         }
-        // The old one becomes the spare, so that no reading makes a row of its own.
+        // The old one becomes the spare, so that at most one for each MAKER is ever made.
         Contract old = contracts[maker];
         contracts[maker] = spareContract;
-        spareContract = old;
+        spareContract = old == null ? new Contract() : old;
         tape.length = 0;
         return true;
     }
@@ -258,7 +261,11 @@ public final class FleetStores {
         }
         int bad = line.badDrawn(of, k, seed);
         of.isDrawn = true;
-        of.owing = of.price + contracts[of.maker].sum(bad, k, of.casksAtFirst, now - of.made);
+        of.owing = of.price;
+        Contract contract = contracts[of.maker];
+        if (contract != null) {
+            of.owing += contract.sum(bad, k, of.casksAtFirst, now - of.made);
+        }
         return bad;
     }
 
@@ -354,7 +361,10 @@ public final class FleetStores {
     }
 
     private int stockAsBegan(Store store, int week) {
-        return within(week, 0, now) ? store.stocks[week] : NONE;
+        if (!within(week, 0, now) || stocksAsBegan[week] == null) {
+            return NONE;
+        }
+        return stocksAsBegan[week][store.number];
     }
 
     private void bringIn() {
@@ -395,14 +405,13 @@ public final class FleetStores {
     }
 
     private void writeStocks() {
-        if (now > LAST_WEEK) {
-            return;
-        }
+        int[] stocks = new int[STORES];
         for (Lot of = lots.oldest; of != null; of = of.next) {
             if (of.isThere()) {
-                of.store.stocks[now] += of.casks;
+                stocks[of.store.number] += of.casks;
             }
         }
+        stocksAsBegan[now] = stocks;
     }
 
     private void beginTrial(int place) {
@@ -496,21 +505,21 @@ public final class FleetStores {
 
     /** What a PLACE has, and had, of a KIND. */
     private static final class Store {
+        final int number;
         final Place place;
         final Kind kind;
         final Table table;
         final Table trialTable;
-        final int[] stocks;
         int opened;
         int lacked;
         Survey surveys;
 
-        Store(Place place, Kind kind) {
+        Store(int number, Place place, Kind kind) {
+            this.number = number;
             this.place = place;
             this.kind = kind;
             table = new Table();
             trialTable = new Table();
-            stocks = new int[LAST_WEEK + 1];
         }
 
         void noteSurvey(int week, int difference) {
@@ -634,9 +643,9 @@ public final class FleetStores {
         }
 
         // The newest number goes behind all that were made in the same WEEK or ahead of it.
+        // None was made ahead of the oldest: what is sent was made with a LOT of the chain.
         private void putInChain(Lot lot) {
-            if (oldest == null || lot.made < oldest.made) {
-                lot.next = oldest;
+            if (oldest == null) {
                 oldest = lot;
                 return;
             }

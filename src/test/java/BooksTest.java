@@ -7,6 +7,7 @@ public final class BooksTest {
         twoHundredSurveys();
         balances();
         forgiven();
+        forgivenByEights();
         counts();
         Check.end();
     }
@@ -91,6 +92,23 @@ public final class BooksTest {
         Check.due("nothing was opened there", x.balance(4, 2), -10);
         x.survey(3, 1, 1, 0);
         Check.due("of that kind there: 4 and 3 casks", x.balance(3, 1), -96);
+    }
+
+    private static void forgivenByEights() {
+        FleetStores x = new FleetStores();
+        x.buy(5, 0, 0, 100, 0, 0);
+        x.rations(0, 1);
+        x.men(5, 1);
+        x.week();
+        x.survey(5, 0, 1, 90);
+        Check.due("7 opened: none", x.balance(5, 0), -3);
+        x.rations(0, 7);
+        x.week();
+        Check.due("8 opened: one", x.balance(5, 0), -2);
+        Check.weeks(x, 7);
+        Check.due("15 opened: one", x.balance(5, 0), -2);
+        x.week();
+        Check.due("16 opened: two", x.balance(5, 0), -1);
     }
 
     private static void counts() {

@@ -13,6 +13,7 @@ public final class ContractsTest {
         faultsOfManyTexts();
         contract();
         longest();
+        readAnew();
         Check.end();
     }
 
@@ -168,6 +169,25 @@ public final class ContractsTest {
         Check.due("no clauses any more", x.due(1), 100);
         Check.due("what was due stays", x.due(0), 105);
         Check.yes("no bytes", x.contract(0));
+    }
+
+    private static void readAnew() {
+        FleetStores x = new FleetStores();
+        Check.contract(x, 0, "k=0:1;k=0:2;k=0:4");
+        Check.contract(x, 0, "k=0:8");
+        Check.contract(x, 0, "k=0:16;k=0:32");
+        Check.contract(x, 1, "k=0:64");
+        Check.feed(x, "k=0:128;");
+        x.fault();
+        x.end(0);
+        Check.contract(x, 2, "");
+        for (int maker = 0; maker < 3; maker++) {
+            x.buy(0, maker, 0, 1, 0, 0);
+            x.draw(maker, 0, 0);
+        }
+        Check.due("the last one alone", x.due(0), 48);
+        Check.due("nothing of another maker's", x.due(1), 64);
+        Check.due("nothing of what had a fault", x.due(2), 0);
     }
 
     private static void longest() {

@@ -5,6 +5,7 @@ public final class DrawingTest {
         drawsAsALineWould();
         clauses();
         dueAsItIsDrawn();
+        madeLater();
         owed();
         Check.end();
     }
@@ -107,6 +108,16 @@ public final class DrawingTest {
         Check.contract(x, 0, "k=1:9");
         Check.due("another contract later", x.due(0), 112);
         Check.due("owed likewise", x.owed(0), 112);
+    }
+
+    private static void madeLater() {
+        FleetStores x = new FleetStores();
+        Check.contract(x, 0, "g=3:5");
+        Check.weeks(x, 4);
+        x.buy(0, 0, 0, 8, 0, 7);
+        Check.weeks(x, 3);
+        x.draw(0, 1, 1);
+        Check.due("weeks since it was made", x.due(0), 12);
     }
 
     private static void owed() {

@@ -6,6 +6,8 @@ public final class LettersAndLastsTest {
         lastsWithWhatComes();
         lastsWithSpoiling();
         lastsWithOpen();
+        lastsToTheRation();
+        lastsOfWhatWasMadeLater();
         lastsChangesNothing();
         lastsNearTheLastWeek();
         Check.end();
@@ -117,6 +119,33 @@ public final class LettersAndLastsTest {
         Check.due("what is open keeps", x.lasts(3), 6);
         x.men(3, 0);
         Check.due("nobody", x.lasts(3), 60);
+    }
+
+    private static void lastsToTheRation() {
+        FleetStores x = new FleetStores();
+        x.men(3, 1);
+        for (int k = 0; k < 4; k++) {
+            x.rations(k, 7);
+        }
+        buyAllKinds(x, 3, 2);
+        Check.due("14 of each", x.lasts(3), 2);
+        for (int k = 0; k < 4; k++) {
+            x.rations(k, 6);
+            Check.due("one lacking of kind " + k, x.lasts(3), 1);
+            x.buy(3, 0, k, 1, 0, 0);
+            Check.due("a cask more of it", x.lasts(3), 2);
+        }
+    }
+
+    private static void lastsOfWhatWasMadeLater() {
+        FleetStores x = new FleetStores();
+        Check.weeks(x, 10);
+        x.men(3, 50);
+        x.spoils(2, 1, 1000);
+        buyAllKinds(x, 3, 7 * 20);
+        Check.due("four weeks of age 0", x.lasts(3), 4);
+        Check.weeks(x, 3);
+        Check.due("one more", x.lasts(3), 1);
     }
 
     private static void lastsChangesNothing() {

@@ -8,6 +8,8 @@ public final class WeeksTest {
         comingSpoilingEating();
         spoilingAtSea();
         ages();
+        agesOfOneMadeLater();
+        oneRationMore();
         openCask();
         began();
         noSuch();
@@ -128,6 +130,31 @@ public final class WeeksTest {
             Check.due("casks behind week " + week, x.stock(5, 2), casks);
         }
         Check.due("condemned", x.condemned(0), 5000 - casks);
+    }
+
+    private static void agesOfOneMadeLater() {
+        FleetStores x = new FleetStores();
+        x.spoils(0, 1, 100);
+        Check.weeks(x, 3);
+        x.buy(0, 0, 0, 100, 0, 0);
+        Check.weeks(x, 4);
+        Check.due("age 0 for four weeks", x.stock(0, 0), 100);
+        x.week();
+        Check.due("age 1 then", x.stock(0, 0), 90);
+    }
+
+    private static void oneRationMore() {
+        FleetStores x = new FleetStores();
+        x.rations(0, 6);
+        x.men(0, 1);
+        x.buy(0, 0, 0, 1, 0, 0);
+        x.week();
+        Check.due("one is lacking", x.lacks(0, 0), 1);
+        x.buy(0, 0, 0, 2, 0, 0);
+        x.week();
+        Check.due("a cask is opened for one", x.stock(0, 0), 0);
+        Check.due("five are left of it", x.open(0, 0), 5);
+        Check.due("no more is lacking", x.lacks(0, 0), 1);
     }
 
     private static void openCask() {
