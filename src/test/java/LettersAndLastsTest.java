@@ -125,15 +125,15 @@ public final class LettersAndLastsTest {
         FleetStores x = new FleetStores();
         x.men(3, 1);
         for (int k = 0; k < 4; k++) {
-            x.rations(k, 7);
+            x.rations(k, 14);
         }
-        buyAllKinds(x, 3, 2);
+        buyAllKinds(x, 3, 1);
         Check.due("14 of each", x.lasts(3), 2);
         for (int k = 0; k < 4; k++) {
-            x.rations(k, 6);
+            x.rations(k, 13);
             Check.due("one lacking of kind " + k, x.lasts(3), 1);
-            x.buy(3, 0, k, 1, 0, 0);
-            Check.due("a cask more of it", x.lasts(3), 2);
+            x.rations(k, 14);
+            Check.due("none lacking of it", x.lasts(3), 2);
         }
     }
 

@@ -150,7 +150,8 @@ public final class WeeksTest {
         x.buy(0, 0, 0, 1, 0, 0);
         x.week();
         Check.due("one is lacking", x.lacks(0, 0), 1);
-        x.buy(0, 0, 0, 2, 0, 0);
+        x.buy(0, 0, 0, 1, 0, 0);
+        x.buy(0, 0, 0, 1, 0, 0);
         x.week();
         Check.due("a cask is opened for one", x.stock(0, 0), 0);
         Check.due("five are left of it", x.open(0, 0), 5);
