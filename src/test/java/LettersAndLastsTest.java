@@ -32,12 +32,6 @@ public final class LettersAndLastsTest {
         Check.due("and nothing ahead of it", x.known(2, 1, 5), -1);
     }
 
-    private static void buyAllKinds(FleetStores x, int place, int casks) {
-        for (int k = 0; k < 4; k++) {
-            x.buy(place, 0, k, casks, 0, 0);
-        }
-    }
-
     private static void lastsPlainly() {
         FleetStores x = new FleetStores();
         Check.due("place 8", x.lasts(8), -1);
@@ -45,9 +39,9 @@ public final class LettersAndLastsTest {
         Check.due("nobody there", x.lasts(4), 60);
         x.men(4, 50);
         Check.due("nothing there", x.lasts(4), 0);
-        buyAllKinds(x, 4, 7);
+        Check.buyAllKinds(x, 4, 7);
         Check.due("350 rations for one week", x.lasts(4), 1);
-        buyAllKinds(x, 4, 6);
+        Check.buyAllKinds(x, 4, 6);
         Check.due("650 for one", x.lasts(4), 1);
         x.buy(4, 0, 0, 1, 0, 0);
         Check.due("the least of the kinds", x.lasts(4), 1);
@@ -55,11 +49,11 @@ public final class LettersAndLastsTest {
         x.buy(4, 0, 2, 1, 0, 0);
         x.buy(4, 0, 3, 1, 0, 0);
         Check.due("700 for two", x.lasts(4), 2);
-        buyAllKinds(x, 4, 7 * 57);
+        Check.buyAllKinds(x, 4, 7 * 57);
         Check.due("59 weeks", x.lasts(4), 59);
-        buyAllKinds(x, 4, 7);
+        Check.buyAllKinds(x, 4, 7);
         Check.due("60 weeks", x.lasts(4), 60);
-        buyAllKinds(x, 4, 5000);
+        Check.buyAllKinds(x, 4, 5000);
         Check.due("60 at most", x.lasts(4), 60);
         Check.due("nobody elsewhere", x.lasts(5), 60);
     }
@@ -68,12 +62,12 @@ public final class LettersAndLastsTest {
         FleetStores x = new FleetStores();
         x.men(1, 50);
         x.way(0, 1, 1);
-        buyAllKinds(x, 0, 100);
+        Check.buyAllKinds(x, 0, 100);
         for (int k = 0; k < 4; k++) {
             x.send(k, 1, 21);
         }
         Check.due("it comes too late for this week", x.lasts(1), 0);
-        buyAllKinds(x, 1, 7);
+        Check.buyAllKinds(x, 1, 7);
         Check.due("this week and three more", x.lasts(1), 4);
         x.week();
         Check.due("three more", x.lasts(1), 3);
@@ -91,8 +85,8 @@ public final class LettersAndLastsTest {
         x.men(1, 50);
         x.way(0, 1, 2);
         x.spoils(0, 0, 250);
-        buyAllKinds(x, 0, 5000);
-        buyAllKinds(x, 1, 28);
+        Check.buyAllKinds(x, 0, 5000);
+        Check.buyAllKinds(x, 1, 28);
         for (int k = 0; k < 4; k++) {
             x.send(k, 1, 56);
         }
@@ -111,7 +105,7 @@ public final class LettersAndLastsTest {
     private static void lastsWithOpen() {
         FleetStores x = new FleetStores();
         x.men(3, 1);
-        buyAllKinds(x, 3, 1);
+        Check.buyAllKinds(x, 3, 1);
         Check.due("50 rations: 7 weeks", x.lasts(3), 7);
         x.week();
         Check.due("43 of them open: 6 weeks", x.lasts(3), 6);
@@ -127,7 +121,7 @@ public final class LettersAndLastsTest {
         for (int k = 0; k < 4; k++) {
             x.rations(k, 14);
         }
-        buyAllKinds(x, 3, 1);
+        Check.buyAllKinds(x, 3, 1);
         Check.due("14 of each", x.lasts(3), 2);
         for (int k = 0; k < 4; k++) {
             x.rations(k, 13);
@@ -142,7 +136,7 @@ public final class LettersAndLastsTest {
         Check.weeks(x, 10);
         x.men(3, 50);
         x.spoils(2, 1, 1000);
-        buyAllKinds(x, 3, 7 * 20);
+        Check.buyAllKinds(x, 3, 7 * 20);
         Check.due("four weeks of age 0", x.lasts(3), 4);
         Check.weeks(x, 3);
         Check.due("one more", x.lasts(3), 1);
@@ -152,7 +146,7 @@ public final class LettersAndLastsTest {
         FleetStores x = new FleetStores();
         x.men(1, 20);
         x.spoils(2, 0, 100);
-        buyAllKinds(x, 1, 30);
+        Check.buyAllKinds(x, 1, 30);
         x.buy(0, 0, 0, 40, 0, 0);
         x.send(4, 1, 10);
         x.week();
@@ -174,7 +168,7 @@ public final class LettersAndLastsTest {
         Check.weeks(x, 200);
         x.men(2, 50);
         Check.due("nothing there", x.lasts(2), 0);
-        buyAllKinds(x, 2, 21);
+        Check.buyAllKinds(x, 2, 21);
         Check.due("three weeks, though none of them will come", x.lasts(2), 3);
         Check.due("nobody", x.lasts(3), 60);
     }

@@ -1,7 +1,13 @@
 import java.util.Random;
 
-/** Long runs of calls with chosen-by-seed arguments, right and wrong, held against the Model. */
+/**
+ * Runs of 512 calls, as many as an object is used for, with chosen-by-seed arguments, right and
+ * wrong, held against the Model.
+ */
 public final class ModelTest {
+    private static final int MOST_CALLS = 512;
+    private static final int DEAREST_STEP = 16;
+    private static final int CALLS_TO_COMPARE = 120;
     private static final String[] CONTRACTS = {
         "", "  ", "b>0:-30;k=5:7", "g<3:10; g>2:-10 ;n>20:5", "k>10 : 12 ; b<2:-99999", "n=30:1;b=0:2;b=1:3;b=2:4;k<9:50",
     };
@@ -11,33 +17,54 @@ public final class ModelTest {
     private final FleetStores x = new FleetStores();
     private final Model m = new Model();
     private final int hurry;
+    private int calls;
     private String run;
 
     private ModelTest(int seed) {
         random = new Random(seed);
-        hurry = random.nextInt(3);
+        hurry = random.nextInt(7) % 4;
         run = "run " + seed;
     }
 
     public static void main(String[] args) {
-        for (int seed = 0; seed < 300 && Check.wrong() < 20; seed++) {
-            new ModelTest(seed).play();
+        int weeks = 0;
+        int lots = 0;
+        int surveys = 0;
+        for (int seed = 0; seed < 1500 && Check.wrong() < 20; seed++) {
+            ModelTest run = new ModelTest(seed);
+            run.play();
+            weeks = Math.max(weeks, run.m.now);
+            lots = Math.max(lots, run.m.lots.size());
+            surveys = Math.max(surveys, run.m.surveys.size());
+            Check.yes("run " + seed + " has " + run.calls + " calls", run.calls <= MOST_CALLS);
         }
+        Check.due("some runs come to the last week", weeks, 200);
+        Check.due("and to the last lot", lots, 300);
+        Check.due("and to the last survey", surveys, 200);
         Check.end();
     }
 
     private void play() {
-        for (int call = 0; call < 512; call++) {
-            step(random.nextInt(30));
+        while (calls < MOST_CALLS - CALLS_TO_COMPARE) {
+            step();
         }
-        if (Check.wrong() < 20) {
-            compareAll();
+        compare();
+    }
+
+    /** Some runs hurry to a limit of the document, which 512 calls of all sorts would never reach. */
+    private void step() {
+        boolean plainly = hurry == 0 || random.nextInt(8) == 0;
+        switch (plainly ? 0 : hurry) {
+            case 1: week(); break;
+            case 2: buy(); break;
+            case 3: survey(); break;
+            default: step(random.nextInt(29)); break;
         }
     }
 
     /** Below 'many' mostly; now and then just at it, or far off. */
     private int pick(int many) {
-        int kind = random.nextInt(40);
+        int kind = random.nextInt(hurry == 2 ? 200 : 40);
         return kind == 0 ? many : kind == 1 ? ODD[random.nextInt(4)] : random.nextInt(many);
     }
 
@@ -46,6 +73,7 @@ public final class ModelTest {
     }
 
     private void due(String call, int got, int want) {
+        calls++;
         Check.due(run + ": " + call, got, want);
     }
 
@@ -64,7 +92,7 @@ public final class ModelTest {
             case 23: case 24: survey(); break;
             case 25: letters(); break;
             case 26: count(); break;
-            default: if (hurry > 0) { week(); } else { send(); } break;
+            default: send(); break;
         }
     }
 
@@ -175,6 +203,7 @@ public final class ModelTest {
         int maker = pick(10);
         x.end(0);
         Check.feed(x, text);
+        calls += 1 + Math.max(1, (text.length() + 19) / 20);
         boolean ok = in(maker, 0, 9);
         due("contract", x.contract(maker) ? 1 : 0, ok ? 1 : 0);
         if (ok) {
@@ -236,17 +265,17 @@ public final class ModelTest {
         due("condemned(" + mark + ")", x.condemned(mark), in(mark, 0, 299) ? m.condemned[mark] : 0);
     }
 
-    private void compareAll() {
+    private void compare() {
         run = run + ", at its end";
-        for (int i = 0; i < 300; i++) {
+        for (int p = 0; p < 8; p++) {
+            due("lasts(" + p + ")", x.lasts(p), m.lasts(p));
+        }
+        while (calls < MOST_CALLS - DEAREST_STEP) {
             lot();
             store();
             letters();
             count();
             draw();
-        }
-        for (int p = 0; p < 8; p++) {
-            due("lasts(" + p + ")", x.lasts(p), m.lasts(p));
         }
     }
 }
