@@ -2,7 +2,7 @@ import java.util.ArrayList;
 import java.util.List;
 import java.util.function.ToIntFunction;
 
-/** Every call that the document refuses: its answer, and that all is as it was, now and later. */
+/** Refused calls of each promise: their answers, and that all is as it was, now and later. */
 public final class RefusedTest {
     private static final int MIN = Integer.MIN_VALUE;
     private static final int MAX = Integer.MAX_VALUE;
